@@ -1514,7 +1514,8 @@ public final class TenTrials {
                 return false;
             }
             trial.base = number;
-            if (!readCurve(trial)) {
+            boolean isRead = sees(Sign.TABLE_OF) ? readTable(trial) : readFormula(trial);
+            if (!isRead) {
                 return false;
             }
             trial.swing = 0;
@@ -1529,10 +1530,7 @@ public final class TenTrials {
             return true;
         }
 
-        private boolean readCurve(Trial trial) {
-            if (sees(Sign.TABLE_OF)) {
-                return readTable(trial);
-            }
+        private boolean readFormula(Trial trial) {
             if (sees(Sign.LINE_BY)) {
                 trial.curve = LINE;
             } else if (sees(Sign.SQUARE_BY)) {
@@ -1646,7 +1644,7 @@ public final class TenTrials {
             return true;
         }
 
-        // Of the next five, within tells how many not, [ and ( stand open around the part.
+        // In the next seven, within tells how many not, [ and ( stand open around the part.
         private boolean readTest(int within) {
             if (!readSide(within)) {
                 return false;
@@ -1676,25 +1674,12 @@ public final class TenTrials {
         }
 
         private boolean readFact(int within) {
-            boolean negates = sees(Sign.NOT);
-            if (!negates && !sees(Sign.TEST_OPENS)) {
-                return readComparison(within);
+            if (sees(Sign.NOT)) {
+                return readNegation(within);
             }
-            if (within >= MOST_WITHIN) {
-                return refuse(TOO_MANY);
+            if (sees(Sign.TEST_OPENS)) {
+                return readBracket(within);
             }
-            advance();
-            if (!negates) {
-                return readTest(within + 1) && take(Sign.TEST_CLOSES);
-            }
-            if (!readFact(within + 1)) {
-                return false;
-            }
-            draft.bonuses.emit(OP_NOT, 0);
-            return true;
-        }
-
-        private boolean readComparison(int within) {
             if (!readSum(within)) {
                 return false;
             }
@@ -1712,6 +1697,26 @@ public final class TenTrials {
             }
             draft.bonuses.emit(operation, 0);
             return true;
+        }
+
+        private boolean readNegation(int within) {
+            if (within >= MOST_WITHIN) {
+                return refuse(TOO_MANY);
+            }
+            advance();
+            if (!readFact(within + 1)) {
+                return false;
+            }
+            draft.bonuses.emit(OP_NOT, 0);
+            return true;
+        }
+
+        private boolean readBracket(int within) {
+            if (within >= MOST_WITHIN) {
+                return refuse(TOO_MANY);
+            }
+            advance();
+            return readTest(within + 1) && take(Sign.TEST_CLOSES);
         }
 
         private boolean readSum(int within) {
