@@ -568,9 +568,12 @@ public final class TenTrials {
         }
         Trial trial = contest.trials[e];
         int unlike = 1;
+        int last = trial.valueOf(from);
         // POINTS never turn back along the MARKS, so like ones always stand side by side.
         for (int m = from + 1; m <= to; m++) {
-            unlike += trial.valueOf(m) != trial.valueOf(m - 1) ? 1 : 0;
+            int next = trial.valueOf(m);
+            unlike += next != last ? 1 : 0;
+            last = next;
         }
         return unlike;
     }

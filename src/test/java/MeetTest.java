@@ -23,6 +23,8 @@ public final class MeetTest {
                 CHECK.due("met(" + row[0] + ", " + a + ")", row[a + 1], X.met(row[0], a));
             }
         }
+        TenTrials low = Check.told("event run base 500 line 1 by 1 spread 999;athlete;mark 0 0 3;");
+        CHECK.due("no less than 0", 500, low.met(0, 0));    // the DRAW is 192: 807 less than 3
         CHECK.due("met(-1, 0)", -2, X.met(-1, 0));
         CHECK.due("met(0, 3)", -2, X.met(0, 3));
         CHECK.due("met(0, -1)", -2, X.met(0, -1));

@@ -72,6 +72,11 @@ public final class NeedTest {
         CHECK.due("without a mark there", 51, x.pass(2, 1, 1));
         CHECK.due("ahead at once", 0, x.pass(0, 2, 1));
         CHECK.due("not by so little", -1, x.pass(2, 2, 1));
+        x.sets(2, 0, 72);
+        CHECK.due("just by the most", 9, x.pass(2, 2, 1));
+        x.sets(2, 0, 71);
+        CHECK.due("not by the most", -1, x.pass(2, 2, 1));
+        x.sets(2, 0, 30);
         CHECK.due("one and the same", -2, x.pass(1, 1, 1));
         CHECK.due("pass(3, 0, 0)", -2, x.pass(3, 0, 0));
         CHECK.due("pass(0, 3, 1)", -2, x.pass(0, 3, 1));

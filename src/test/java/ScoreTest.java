@@ -185,6 +185,8 @@ public final class ScoreTest {
         CHECK.due("of like ones the least", 0, x.behind(1));
         x.sets(0, 2, 12);
         CHECK.due("in none fewer", -1, x.behind(0));
+        CHECK.due("nobody has any", -1, Check.told("event field base 9 line 1 by 1;athlete;mark 0 0 3;").behind(0));
+        CHECK.due("one fewer is some", 0, Check.told("event field base 0 line 1 by 1;athlete;athlete;mark 0 0 3;mark 1 0 2;").behind(1));
     }
 
     private static void close() {

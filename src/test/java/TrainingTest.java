@@ -58,6 +58,7 @@ public final class TrainingTest {
         x.gain(0, 2, 1, 1);
         CHECK.due("in none any", -1, x.pays(0, 1));
         CHECK.due("later one", 0, x.pays(0, 20));
+        CHECK.due("one point more is some", 0, x.pays(0, 3));
     }
 
     private static void hour() {
