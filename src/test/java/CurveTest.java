@@ -154,6 +154,7 @@ public final class CurveTest {
 
     private static void kinds() {
         CHECK.due("one mark", 1, X.kinds(0, 993, 993));
+        CHECK.due("1, 0", 2, X.kinds(0, 997, 998));
         CHECK.due("3, 2, 2, 1, 1, 0", 4, X.kinds(0, 993, 998));
         CHECK.due("all without points", 1, X.kinds(0, 1000, 3000));
         CHECK.due("at most 2000 more", -2, X.kinds(0, 1000, 3001));

@@ -80,6 +80,7 @@ public final class FullTest {
         TenTrials x = new TenTrials();
         CHECK.due("a tape of semicolons", -4, Check.tell(x, ";".repeat(1200)));
         CHECK.due("its place", 0, x.fault(1));
+        CHECK.due("with a number as the last", -4, Check.tell(x, ";".repeat(1199) + "5"));
         String start = "athlete;bonus 5 when total+1=1";
         String most = start + "+1-1".repeat((1199 - start.length()) / 4);
         CHECK.due("1200 bytes", 2, Check.tell(x, most + " ".repeat(1199 - most.length()) + ";"));
