@@ -1,6 +1,13 @@
+import java.lang.reflect.InvocationTargetException;
+import java.lang.reflect.Method;
 import java.nio.charset.StandardCharsets;
+import java.util.Arrays;
+import java.util.Comparator;
+import java.util.Map;
+import java.util.function.Supplier;
+import java.util.function.ToIntFunction;
 
-/** What the tests share: comparing answers, and telling a text to an object. */
+/** What the tests share: running them, comparing answers, and telling a text to an object. */
 final class Check {
     private int wrong;
     private int checks;
@@ -10,6 +17,51 @@ final class Check {
         if (got != want) {
             wrong++;
             System.out.println(call + " answered " + got + ", due is " + want);
+        }
+    }
+
+    /** Runs every method that is marked as a test of a sentence, and ends the program. */
+    void run(Class<?> tests) throws IllegalAccessException {
+        Method[] methods = tests.getDeclaredMethods();
+        Arrays.sort(methods, Comparator.comparing(Method::getName));
+        for (Method method : methods) {
+            if (method.isAnnotationPresent(Sentence.class)) {
+                runOne(method);
+            }
+        }
+        end(tests.getSimpleName());
+    }
+
+    private void runOne(Method method) throws IllegalAccessException {
+        int before = checks;
+        method.setAccessible(true);
+        try {
+            method.invoke(null);
+        } catch (InvocationTargetException thrown) {
+            wrong++;
+            System.out.println(method.getName() + " threw " + thrown.getCause());
+        }
+        if (checks == before) {
+            wrong++;
+            System.out.println(method.getName() + " looked at nothing");
+        }
+    }
+
+    /** A call with the answer that is due, after which all else is as it was. */
+    void stays(String call, int want, Supplier<TenTrials> made, ToIntFunction<TenTrials> called) {
+        due(call, want, called.applyAsInt(made.get()));
+        same(call, Picture.of(made), Picture.of(() -> {
+            TenTrials x = made.get();
+            called.applyAsInt(x);
+            return x;
+        }));
+    }
+
+    /** Two pictures that must be alike. */
+    void same(String after, Map<String, Integer> want, Map<String, Integer> got) {
+        due("what can be seen after " + after, want.size(), got.size());
+        for (String call : want.keySet()) {
+            due(call + " after " + after, want.get(call), got.getOrDefault(call, Integer.MIN_VALUE));
         }
     }
 
