@@ -184,6 +184,12 @@ public final class ActsTest {
         CHECK.due("nothing to undo", -1, told().undo());
         CHECK.stays("undo of nothing", -1, ActsTest::told, TenTrials::undo);
         CHECK.stays("undo without a text", -1, States::untold, TenTrials::undo);
+        CHECK.same("the only athlete undone", Picture.of(() -> Check.told("")), Picture.of(() -> {
+            TenTrials y = Check.told("");
+            y.athlete();
+            y.undo();
+            return y;
+        }));
         TenTrials x = told();
         x.sets(0, 0, 100);
         x.tie(1);
@@ -253,6 +259,17 @@ public final class ActsTest {
             CHECK.due("the tie, whose act was the first", more, y.count(3));
             CHECK.due("the athlete is gone", 2, y.count(1));
         }
+        // Of gains both numbers come back, in their order.
+        TenTrials gains = told();
+        for (int i = 1; i <= 13; i++) {
+            gains.gain(1, 1, 50 + i, 100 * (i % 9 + 1) + i);
+        }
+        for (int i = 12; i >= 3; i--) {
+            CHECK.due("undo", i - 3, gains.undo());
+            CHECK.due("G before", 50 + i, gains.gains(1, 1, 0));
+            CHECK.due("H before", 100 * (i % 9 + 1) + i, gains.gains(1, 1, 1));
+        }
+        CHECK.due("no more", -1, gains.undo());
         // An athlete whose act can't be undone any more stays.
         TenTrials z = told();
         z.athlete();

@@ -90,7 +90,7 @@ public final class NeedTest {
     private static void needsInOne() {
         TenTrials x = Check.told(TEXT);
         int[][] rows = {{0, 0, 0, 0}, {0, 0, 1, 1}, {0, 0, 2000, 2000}, {0, 0, 2001, -1},
-            {0, 1, 100, 0}, {0, 1, 101, 1}, {0, 1, 150, 50}, {0, 1, 400, 300}, {0, 1, 401, -1},
+            {0, 1, 0, 0}, {0, 1, 99, 0}, {0, 1, 100, 0}, {0, 1, 101, 1}, {0, 1, 150, 50}, {0, 1, 400, 300}, {0, 1, 401, -1},
             {0, 2, 106, 6}, {0, 2, 107, 7}, {0, 2, 112, 7}, {0, 2, 113, 13}, {0, 2, 150, 50}, {0, 2, 151, -1},
             {1, 2, 12, 7}, {0, 1, 99999, -1}, {0, 1, 100000, -2}, {0, 1, -1, -2}, {2, 0, 0, -2}, {-1, 0, 0, -2}, {0, 3, 0, -2}, {0, -1, 0, -2}};
         for (int[] row : rows) {
@@ -156,6 +156,13 @@ public final class NeedTest {
         CHECK.due("its mark in place of the other one", 71, x.pass(2, 0, 0));
         CHECK.due("the other one has 60 by its bonus", 10, x.pass(0, 0, 2));
         CHECK.due("50 and as much, but for 5", 5, x.pass(0, 1, 2));
+        // Both have 50 before; what a MARK of 0 POINTS takes away, or brings, counts at once.
+        TenTrials lost = Check.told(FIELD.repeat(2) + "athlete;athlete;mark 0 0 25;mark 0 1 25;mark 1 0 50;bonus 7 when done = 1;");
+        CHECK.due("ahead by a bonus", 0, lost.rank(1));
+        CHECK.due("which the MARK takes away", 1, lost.pass(1, 1, 0));
+        TenTrials won = Check.told(FIELD.repeat(2) + "athlete;athlete;mark 0 0 25;mark 0 1 25;mark 1 0 50;bonus 7 when done = 2 and least = 0;");
+        CHECK.due("behind without a bonus", 1, won.rank(1));
+        CHECK.due("which the MARK brings", 0, won.pass(1, 1, 0));
         TenTrials y = three("bonus 100 when least > 4;");
         CHECK.due("a bonus for a worse mark is one of the other one's, too", 41, y.pass(1, 1, 0));
     }

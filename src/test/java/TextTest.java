@@ -208,6 +208,33 @@ public final class TextTest {
             CHECK.due("bonuses", n, takes(n, "bonus 1 when 1=1;".repeat(n)).count(2));
         }
         refuses(4, "bonus 1 when 1=1;".repeat(4) + "@bonus 1 when 1=1;");
+        // Those of another TEXT, taken or faulty, are none of this one's.
+        TenTrials x = Check.told("bonus 1 when 1=1;".repeat(4));
+        for (int i = 0; i < 3; i++) {
+            CHECK.due("four in another TEXT, too", 4, Check.tell(x, "bonus 2 when 1=1;".repeat(4)));
+            CHECK.due("a fifth in another TEXT", -4, Check.tell(x, "bonus 3 when 1=1;".repeat(5)));
+        }
+        for (int i = 0; i < 3; i++) {
+            CHECK.due("a TEXT without", 1, Check.tell(x, "athlete;"));
+            CHECK.due("bonuses without", 0, x.count(2));
+            CHECK.due("what they come to", 0, x.of(0, 2));
+            CHECK.due("TEST of the first one without", -2, x.holds(0, 0));
+        }
+    }
+
+    @Sentence(of = "I", says = "TEST: SIDE {or SIDE}.")
+    private static void longTestsOneBehindTheOther() {
+        TenTrials x = new TenTrials();
+        String start = "athlete;bonus 5 when 1=1";
+        String longest = start + " or 1=1".repeat((1199 - start.length()) / 7) + ";";
+        for (int i = 0; i < 6; i++) {
+            CHECK.due("a long TEXT", 2, Check.tell(x, longest));
+            CHECK.due("its TEST", 1, x.holds(0, 0));
+        }
+        CHECK.due("a faulty one", -4, Check.tell(x, longest.replace(";", " ;").substring(0, 1190) + "#"));
+        CHECK.due("a short TEXT", 3, Check.tell(x, "athlete;bonus 5 when 1=2;bonus 6 when 1=1;"));
+        CHECK.due("its first TEST", 0, x.holds(0, 0));
+        CHECK.due("its second TEST", 1, x.holds(1, 0));
     }
 
     @Sentence(of = "I", says = "base 0 .. 99999;")

@@ -155,6 +155,16 @@ public final class TrainingTest {
         CHECK.due("60 without events", 0, none.spread(0, 60, -1));
         CHECK.due("no such event", -2, none.spread(0, 60, 0));
         CHECK.due("one event has all", 60, Check.told(FIELD + "athlete;").spread(0, 60, 0));
+        TenTrials gone = Check.told(TEXT);
+        CHECK.due("with events", 95, gone.spread(0, 7, -1));
+        Check.tell(gone, "athlete;");
+        CHECK.due("without them any more", 0, gone.spread(0, 7, -1));
+        CHECK.due("no hours come to 1", -1, gone.hours(0, 1));
+        CHECK.due("nor do all together", 0, gone.squad(7, -1));
+        // Hours are all told out to ATHLETES, be there EVENTS or not.
+        gone.athlete();
+        CHECK.due("squad without events, the first", 0, gone.squad(7, 0));
+        CHECK.due("squad without events, the last", 7, gone.squad(7, 1));
         // A threshold of three hours that pays more than an hour at a time.
         TenTrials y = Check.told(FIELD + "event field base 0 table 13:50;athlete;mark 0 0 0;mark 0 1 10;gain 0 0 10 in 9;gain 0 1 7 in 3;");
         CHECK.due("two hours", 1, y.spread(0, 2, -1));
@@ -240,6 +250,10 @@ public final class TrainingTest {
         CHECK.due("without athletes", 0, none.squad(60, -1));
         CHECK.due("no such athlete", -2, none.squad(60, 0));
         CHECK.due("below none", -2, none.squad(60, -2));
+        TenTrials gone = Check.told(FIELD + "athlete;mark 0 0 5;");
+        CHECK.due("with an athlete", 5, gone.squad(60, -1));
+        Check.tell(gone, FIELD);
+        CHECK.due("without any more", 0, gone.squad(60, -1));
         TenTrials still = Check.told("event run base 200 line 1 by 1;athlete;athlete;");
         CHECK.due("nothing to win, the first", 0, still.squad(9, 0));
         CHECK.due("nothing to win, the last", 9, still.squad(9, 1));
