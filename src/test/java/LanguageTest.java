@@ -1,16 +1,28 @@
 import com.sun.source.tree.AssertTree;
+import com.sun.source.tree.BinaryTree;
+import com.sun.source.tree.CaseTree;
 import com.sun.source.tree.ClassTree;
 import com.sun.source.tree.CompilationUnitTree;
+import com.sun.source.tree.CompoundAssignmentTree;
+import com.sun.source.tree.DoWhileLoopTree;
+import com.sun.source.tree.EnhancedForLoopTree;
+import com.sun.source.tree.ExpressionTree;
+import com.sun.source.tree.ForLoopTree;
+import com.sun.source.tree.InstanceOfTree;
 import com.sun.source.tree.LambdaExpressionTree;
+import com.sun.source.tree.LiteralTree;
 import com.sun.source.tree.MemberReferenceTree;
 import com.sun.source.tree.MethodInvocationTree;
 import com.sun.source.tree.MethodTree;
+import com.sun.source.tree.NewArrayTree;
 import com.sun.source.tree.NewClassTree;
 import com.sun.source.tree.SynchronizedTree;
 import com.sun.source.tree.ThrowTree;
 import com.sun.source.tree.TryTree;
 import com.sun.source.tree.Tree;
+import com.sun.source.tree.TypeCastTree;
 import com.sun.source.tree.VariableTree;
+import com.sun.source.tree.WhileLoopTree;
 import com.sun.source.util.JavacTask;
 import com.sun.source.util.TreePath;
 import com.sun.source.util.TreePathScanner;
@@ -38,6 +50,9 @@ import javax.lang.model.element.ElementKind;
 import javax.lang.model.element.ExecutableElement;
 import javax.lang.model.element.Modifier;
 import javax.lang.model.element.TypeElement;
+import javax.lang.model.type.ArrayType;
+import javax.lang.model.type.TypeKind;
+import javax.lang.model.type.TypeMirror;
 import javax.tools.JavaCompiler;
 import javax.tools.StandardJavaFileManager;
 import javax.tools.ToolProvider;
@@ -109,6 +124,9 @@ public final class LanguageTest {
             if (!outer && !isEnum && !type.getModifiers().contains(Modifier.STATIC)) {
                 fault("2: a class that is not static", tree);
             }
+            if (!outer && type.getEnclosingElement().getKind() != ElementKind.CLASS) {
+                fault("2: a class within a method", tree);
+            }
             int fields = 0;
             for (Tree member : tree.getMembers()) {
                 if (member instanceof VariableTree field) {
@@ -151,9 +169,133 @@ public final class LanguageTest {
             if (line(tree, true) - line(tree, false) >= 60) {
                 fault("11: a long method", tree);
             }
+            if (Set.of("equals", "hashCode", "toString").contains(name)) {
+                fault("6: " + name, tree);
+            }
+            lookAtType(within.getReturnType(), tree);
             super.visitMethod(tree, nothing);
             within = before;
             return null;
+        }
+
+        /** Rule 3: numbers, own classes and String; arrays of numbers, of one or two dimensions, and of own classes, of one. */
+        private void lookAtType(TypeMirror type, Tree tree) {
+            TypeMirror inner = type;
+            int dimensions = 0;
+            while (inner instanceof ArrayType array) {
+                inner = array.getComponentType();
+                dimensions++;
+            }
+            boolean number = inner.getKind().isPrimitive() || dimensions == 0 && inner.getKind() == TypeKind.VOID;
+            boolean own = inner.toString().startsWith("TenTrials");
+            boolean text = inner.toString().equals("java.lang.String") && dimensions == 0;
+            if (!(number && dimensions <= 2 || own && dimensions <= 1 || text)) {
+                fault("3: the type " + type, tree);
+            }
+        }
+
+        private TypeMirror typeOf(ExpressionTree part) {
+            return trees.getTypeMirror(new TreePath(getCurrentPath(), part));
+        }
+
+        private boolean isText(ExpressionTree part) {
+            return typeOf(part).toString().equals("java.lang.String");
+        }
+
+        @Override
+        public Void visitVariable(VariableTree tree, Void nothing) {
+            lookAtType(trees.getElement(getCurrentPath()).asType(), tree);
+            return super.visitVariable(tree, nothing);
+        }
+
+        @Override
+        public Void visitNewArray(NewArrayTree tree, Void nothing) {
+            lookAtType(typeOf(tree), tree);
+            return super.visitNewArray(tree, nothing);
+        }
+
+        @Override
+        public Void visitTypeCast(TypeCastTree tree, Void nothing) {
+            if (!typeOf(tree).getKind().isPrimitive()) {
+                fault("6: a cast that is none of numbers", tree);
+            }
+            return super.visitTypeCast(tree, nothing);
+        }
+
+        @Override
+        public Void visitInstanceOf(InstanceOfTree tree, Void nothing) {
+            fault("6: instanceof, of which the class has no need", tree);
+            return super.visitInstanceOf(tree, nothing);
+        }
+
+        @Override
+        public Void visitBinary(BinaryTree tree, Void nothing) {
+            if (isText(tree.getLeftOperand()) || isText(tree.getRightOperand())) {
+                fault("6, 10: texts that are joined or compared by a sign", tree);
+            }
+            return super.visitBinary(tree, nothing);
+        }
+
+        @Override
+        public Void visitCompoundAssignment(CompoundAssignmentTree tree, Void nothing) {
+            if (isText(tree.getVariable())) {
+                fault("10: a text that is joined by a sign", tree);
+            }
+            return super.visitCompoundAssignment(tree, nothing);
+        }
+
+        @Override
+        public Void visitLiteral(LiteralTree tree, Void nothing) {
+            if (tree.getValue() instanceof String text && !text.chars().allMatch(c -> c >= 1 && c <= 127)) {
+                fault("4: a sign of a constant", tree);
+            }
+            return super.visitLiteral(tree, nothing);
+        }
+
+        /** Rule 9 as far as a condition tells it: one that compares something with a bound. */
+        private void lookAtLoop(ExpressionTree condition, Tree tree) {
+            if (condition == null || !condition.toString().matches(".*[<>].*")) {
+                fault("9: a loop without a bound", tree);
+            }
+        }
+
+        @Override
+        public Void visitForLoop(ForLoopTree tree, Void nothing) {
+            lookAtLoop(tree.getCondition(), tree);
+            if (tree.getUpdate().size() != 1) {
+                fault("9: a loop without a counter", tree);
+            }
+            return super.visitForLoop(tree, nothing);
+        }
+
+        @Override
+        public Void visitWhileLoop(WhileLoopTree tree, Void nothing) {
+            lookAtLoop(tree.getCondition(), tree);
+            return super.visitWhileLoop(tree, nothing);
+        }
+
+        @Override
+        public Void visitDoWhileLoop(DoWhileLoopTree tree, Void nothing) {
+            lookAtLoop(tree.getCondition(), tree);
+            return super.visitDoWhileLoop(tree, nothing);
+        }
+
+        @Override
+        public Void visitEnhancedForLoop(EnhancedForLoopTree tree, Void nothing) {
+            if (!(typeOf(tree.getExpression()) instanceof ArrayType)) {
+                fault("12: a loop that makes an iterator", tree);
+            }
+            return super.visitEnhancedForLoop(tree, nothing);
+        }
+
+        @Override
+        public Void visitCase(CaseTree tree, Void nothing) {
+            for (ExpressionTree label : tree.getExpressions()) {
+                if (isText(label)) {
+                    fault("10: a switch on texts", tree);
+                }
+            }
+            return super.visitCase(tree, nothing);
         }
 
         private void called(Element element, Tree tree) {
